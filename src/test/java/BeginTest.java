@@ -60,6 +60,22 @@ public final class BeginTest {
                 wake 0 = true
                 sent = 0             # it has no edges
                 """);
+        Script.play(expect, "in place of a network that is still looking", """
+                begin 3
+                edge 0 1 1 = 0
+                edge 1 2 2 = 1
+                wake 2 = true
+                wake 0 = true
+                wake 1 = true
+                handle 0 = 0
+                handle 1 = 0
+                handle 1 = 0
+                handle 1 = 1
+                handle 1 = 0
+                node 1 = 1 1 1 1 0 -1 1 100 0 0
+                begin 3
+                node 1 = 0 0 0 0 -1 -1 -1 100 0 0
+                """);
         Script.play(expect, "a call that throws changes nothing", """
                 begin 2
                 edge 0 1 7 = 0
