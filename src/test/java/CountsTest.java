@@ -26,6 +26,54 @@ public final class CountsTest {
                 begin 3
                 sent = 0
                 """);
+        Script.play(expect, "no nodes, one node, no edges: nothing is sent, left or weighs", """
+                sent = 0
+                left = 0
+                weight = 0
+                begin 1
+                wake 0 = true
+                sent = 0
+                left = 0
+                weight = 0
+                begin 7
+                wake 0 = true
+                wake 6 = true
+                run 0 999 = 0
+                sent = 0
+                left = 0
+                weight = 0
+                """);
+        Script.play(expect, "calls that throw or find nothing to do count nothing", """
+                begin 2
+                edge 0 1 7 = 0
+                sent = 0
+                handle 0 = -1
+                run 0 0 = 0
+                wake 0 = true
+                wake 0 = false
+                wake 2 = throws.IndexOutOfBoundsException
+                handle 0 = -1
+                handle 2 = throws.IndexOutOfBoundsException
+                run 0 0 = 0
+                run 0 1000 = throws.IllegalArgumentException
+                edge 0 1 8 = throws.IllegalStateException
+                sent = 1
+                left = 1
+                weight = 0
+                """);
+        Script.play(expect, "left counts the queue of the last of seven nodes, of the first too", """
+                begin 7
+                edge 5 6 1 = 0
+                edge 1 0 2 = 1
+                wake 5 = true
+                left = 1
+                wake 1 = true
+                left = 2
+                handle 6 = 0         # wakes, and answers: two more, one less
+                left = 3
+                begin 6              # without the node that has them
+                left = 0
+                """);
         Script.play(expect, "left counts the queues of all nodes", """
                 left = 0
                 begin 7
@@ -81,6 +129,59 @@ public final class CountsTest {
                 weight = 27
                 begin 3
                 weight = 0
+                """);
+        Script.play(expect, "weight counts no edge that is a BRANCH to its second node alone", """
+                begin 2
+                edge 0 1 7 = 0
+                wake 1 = true
+                marks 1 = 1
+                marks 0 = 0
+                weight = 0
+                wake 0 = true
+                weight = 7
+                """);
+        Script.play(expect, "weight counts no edge that both nodes have rejected", """
+                begin 2
+                edge 0 1 8 = 0
+                edge 0 1 7 = 1
+                wake 0 = true
+                run 0 999 = 8
+                marks 0 = 2 1
+                marks 1 = 2 1
+                weight = 7
+                """);
+        Script.play(expect, "the heaviest tree: 94 + 95 + 96 + 97 + 98 + 99", """
+                begin 7
+                edge 0 1 94 = 0
+                edge 1 2 95 = 1
+                edge 2 3 96 = 2
+                edge 3 4 97 = 3
+                edge 4 5 98 = 4
+                edge 5 6 99 = 5
+                wake 3 = true
+                run 3 999 = 71
+                left = 0
+                weight = 579
+                """);
+        Script.play(expect, "the lightest tree: one edge of weight 1, the last of twelve", """
+                begin 2
+                edge 0 1 12 = 0
+                edge 0 1 11 = 1
+                edge 0 1 10 = 2
+                edge 0 1 9 = 3
+                edge 0 1 8 = 4
+                edge 0 1 7 = 5
+                edge 0 1 6 = 6
+                edge 0 1 5 = 7
+                edge 0 1 4 = 8
+                edge 0 1 3 = 9
+                edge 0 1 2 = 10
+                edge 0 1 1 = 11
+                wake 0 = true
+                wake 1 = true
+                weight = 1
+                run 0 999 = 28
+                weight = 1
                 """);
         expect.finish();
     }

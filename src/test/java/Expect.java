@@ -34,8 +34,15 @@ final class Expect {
         try {
             return call.make();
         } catch (RuntimeException e) {
-            return thrown(e.getClass());
+            return thrown(e.getClass()) + (isByItself(e) ? ", not by a throw statement" : "");
         }
+    }
+
+    /** Whether the library has thrown: no call may throw but by a throw statement of its own. */
+    private static boolean isByItself(RuntimeException e) {
+        StackTraceElement[] frames = e.getStackTrace();
+        return frames.length == 0 || frames[0].getClassName().startsWith("java.")
+                || frames[0].getClassName().startsWith("jdk.");
     }
 
     private static String thrown(Class<? extends RuntimeException> kind) {

@@ -2,15 +2,55 @@
 public final class HandleTest {
     public static void main(String[] args) {
         Expect expect = new Expect();
-        Script.play(expect, "no message, no node", """
+        Script.play(expect, "NONE when its queue is empty", """
                 begin 2
                 edge 0 1 7 = 0
+                handle 0 = -1        # asleep, and it stays so
+                node 0 = 0 0 0 0 -1 -1 -1 100 0 0
+                wake 0 = true
+                handle 0 = -1        # awake
+                node 0 = 2 0 0 0 -1 -1 -1 100 0 0
+                left = 1             # the message of the other node is still there
+                sent = 1
+                handle 1 = 0
+                handle 1 = -1        # its only message is gone
+                run 0 999 = 5
+                handle 0 = -1        # done
+                handle 1 = -1
+                node 0 = 2 1 7 0 0 -1 -1 100 0 1
+                """);
+        Script.play(expect, "a node without edges has no messages", """
+                begin 1
                 handle 0 = -1
                 about 0 0 = 0
+                wake 0 = true
+                handle 0 = -1
+                node 0 = 2 0 0 0 -1 -1 -1 100 0 0
+                """);
+        Script.play(expect, "no nodes at all", """
+                handle 0 = throws.IndexOutOfBoundsException
+                """);
+        Script.play(expect, "no such node", """
+                begin 2
+                edge 0 1 7 = 0
+                wake 0 = true
+                wake 1 = true
                 handle 2 = throws.IndexOutOfBoundsException
                 handle -1 = throws.IndexOutOfBoundsException
+                handle 256 = throws.IndexOutOfBoundsException
                 handle 2147483647 = throws.IndexOutOfBoundsException
                 handle -2147483648 = throws.IndexOutOfBoundsException
+                left = 2
+                handle 1 = 0
+                handle 0 = 0
+                """);
+        Script.play(expect, "no such node of seven", """
+                begin 7
+                handle 7 = throws.IndexOutOfBoundsException
+                handle 6 = -1
+                begin 6
+                handle 6 = throws.IndexOutOfBoundsException
+                handle 5 = -1
                 """);
         Script.play(expect, "two nodes join over their one edge", """
                 begin 2

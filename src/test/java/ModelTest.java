@@ -2,17 +2,17 @@ import java.util.Random;
 
 /**
  * All promises: the program and the model of the document answer the same, whatever is called
- * in whatever order, and a call that throws changes nothing.
+ * in whatever order, for all the 512 calls that an object is good for.
  */
 public final class ModelTest {
-    private static final int OBJECTS = 1500;
-    private static final int CALLS = 512;
+    private static final int OBJECTS = 4000;
 
     private final Expect expect = new Expect();
     private final Random random = new Random(20261115);
     private MergingFragments x;
     private Model model;
     private int nodes;
+    private int calls;
 
     public static void main(String[] args) {
         new ModelTest().playAll();
@@ -23,8 +23,9 @@ public final class ModelTest {
             x = new MergingFragments();
             model = new Model();
             nodes = 0;
+            calls = 0;
             int handling = random.nextInt(3);
-            for (int call = 0; call < CALLS; call++) {
+            while (calls < Calls.MOST) {
                 playOne(handling);
             }
         }
@@ -83,13 +84,11 @@ public final class ModelTest {
     }
 
     private void compare(String call, Expect.Call due, Expect.Call made) {
-        Object answer = Expect.outcome(due);
-        boolean throwing = String.valueOf(answer).startsWith("throws.");
-        String before = throwing ? Script.all(x) : "";
-        expect.equal(call, answer, made);
-        if (throwing) {
-            expect.equal("the state after " + call + ", which throws,", before, () -> Script.all(x));
+        if (calls == Calls.MOST) {
+            return;
         }
+        calls++;
+        expect.equal(call, Expect.outcome(due), made);
     }
 
     private int node() {

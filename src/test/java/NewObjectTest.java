@@ -18,6 +18,22 @@ public final class NewObjectTest {
         expect.equal("left()", 0, x::left);
         expect.equal("weight()", 0, x::weight);
         expect.equal("NONE", -1, () -> MergingFragments.NONE);
+        expectOwnNodes(expect);
         expect.finish();
+    }
+
+    /** A new object has no nodes whatever was done with another one. */
+    private static void expectOwnNodes(Expect expect) {
+        MergingFragments one = new MergingFragments();
+        one.begin(7);
+        one.edge(0, 6, 7);
+        one.wake(0);
+        MergingFragments other = new MergingFragments();
+        expect.fails("about(0, 0) of another", IndexOutOfBoundsException.class, () -> other.about(0, 0));
+        expect.equal("sent() of another", 0, other::sent);
+        other.begin(7);
+        expect.equal("left() of another", 0, other::left);
+        expect.equal("edge(0, 6, 7) of another", 0, () -> other.edge(0, 6, 7));
+        expect.equal("left()", 1, one::left);
     }
 }

@@ -7,6 +7,9 @@ import java.util.Random;
 public final class TreeTest {
     private static final int NETWORKS = 4000;
 
+    /** So few that an object never has more than 512 calls; most networks need less. */
+    private static final int FREE_STEPS = 450;
+
     private final Expect expect = new Expect();
     private final Random random = new Random(7);
 
@@ -55,20 +58,19 @@ public final class TreeTest {
     }
 
     private void playToTheEnd(MergingFragments x, int nodes) {
-        boolean awake = false;
         int favourite = random.nextInt(nodes);
-        for (int step = 0; step < 100000 && !(awake && x.left() == 0); step++) {
+        for (int step = 0; step < FREE_STEPS; step++) {
             int node = random.nextInt(3) == 0 ? favourite : random.nextInt(nodes);
             if (random.nextInt(4) == 0) {
                 x.wake(node);
             } else {
                 x.handle(node);
             }
-            awake = true;
-            for (int i = 0; i < nodes; i++) {
-                awake &= x.about(i, 0) != 0;
-            }
         }
+        for (int i = 0; i < nodes; i++) {
+            x.wake(i);
+        }
+        x.run(favourite, 999);
         expect.equal("left() in the end", 0, x::left);
     }
 
