@@ -266,6 +266,34 @@ public final class HandleTest {
                 marks 2 = -1 1 1 -1
                 queue 3 = 3@2(0,0,0) 0@2(1,0,0)
                 """);
+        Script.play(expect, "CORE goes on as CORE while BEST is a BRANCH", """
+                begin 6
+                edge 0 1 1 = 0
+                edge 1 2 2 = 1
+                edge 2 3 3 = 2
+                edge 3 4 9 = 3
+                edge 4 5 4 = 4
+                wake 0 = true
+                wake 1 = true
+                wake 2 = true
+                wake 3 = true
+                wake 4 = true
+                wake 5 = true
+                run 0 60 = 60
+                node 1 = 2 1 1 0 0 1 -1 9 1 0
+                node 2 = 2 1 1 0 1 2 -1 9 0 0
+                node 3 = 2 1 1 0 2 3 -1 9 1 0
+                handle 1 = 5         # 100 is greater than 9: CORE
+                queue 2 = 6@1(0,0,0)
+                handle 2 = 6         # CORE again
+                queue 3 = 0@3(1,0,0) 6@2(0,0,0)
+                marks 2 = -1 1 1 -1 -1
+                handle 3 = 0         # put back: edge 3 is BASIC
+                marks 3 = -1 -1 1 0 -1
+                handle 3 = 6         # CONNECT
+                marks 3 = -1 -1 1 1 -1
+                queue 4 = 0@3(1,0,0)
+                """);
         Script.play(expect, "two nodes that test the same edge at once", """
                 begin 2
                 edge 0 1 4 = 0
